@@ -862,9 +862,6 @@ public final class RubbedSheets {
             int child = children;
             roomOf[child] = room;
             seatOf[child] = seat;
-            // An undo may have left what a later child of this number knew.
-            known[child] = 0;
-            taught[child] = 0;
             children++;
             return child;
         }

@@ -13,6 +13,7 @@ public final class HandsTest {
         puts();
         fills();
         leaves();
+        sheetsAreApart();
         due.end("HandsTest");
     }
 
@@ -260,6 +261,29 @@ public final class HandsTest {
         due.is("no more", x.fills(0), 0);
         due.is("room above", x.fills(1), Due.BEYOND);
         due.is("room below", x.fills(-1), Due.BEYOND);
+    }
+
+    /** The last year of one child and the first of the next don't touch. */
+    private static void sheetsAreApart() {
+        RubbedSheets x = withChildren(2);
+        Due.read(x, 1, "010000000000");
+        x.mark(1, 1, 5, 0);
+        for (int year = 1; year <= 5; year++) {
+            x.year();
+        }
+        due.is("child 0 has none", x.childIs(0, 4), 0);
+        Due.read(x, 0, "111111111111");
+        x.mark(0, 11, 6, 2);
+        x.mark(0, 0, 6, 0);
+        sheetIs(x, 1, 0, "000000000000");
+        kindsAre(x, 1, 0, "050000000000");
+        due.is("WR of child 1", x.sheetIs(1, 0, 2), 1);
+        due.is("WR of child 0", x.sheetIs(0, 5, 2), 1);
+        due.is("WW of child 0", x.sheetIs(0, 5, 4), 1);
+        due.is("PUTS of child 0", x.sheetIs(0, 5, 6), 2);
+        due.is("child 0 has one", x.childIs(0, 4), 1);
+        due.is("child 1 has one", x.childIs(1, 4), 1);
+        due.is("one of year 5", x.count(2), 1);
     }
 
     private static void leaves() {

@@ -7,6 +7,7 @@ public final class ImagesTest {
         latestImage();
         whatStays();
         freshNumbers();
+        sheetsComeAndGo();
         count();
         status();
         manyCalls();
@@ -40,6 +41,8 @@ public final class ImagesTest {
         due.is("kind", x.bubble(0, 0, 1, 1), 5);
         due.is("blank", x.bubble(0, 0, 3, 0), -1);
         due.is("WR", x.sheetIs(0, 0, 2), 1);
+        due.is("RW", x.sheetIs(0, 0, 3), 0);
+        due.is("WW", x.sheetIs(0, 0, 4), 0);
         due.is("way", x.says(0, 0, 0), 2);
         due.is("keys", x.could(0, 0, 99, 9), 2);
         due.is("forms", x.cheapest(2, 0), 4);
@@ -133,6 +136,7 @@ public final class ImagesTest {
         x.undo();
         x.room();
         due.is("child 1 again", x.child(0, 9), 1);
+        due.is("its seat", x.childIs(1, 1), 9);
         due.is("knows nothing", x.childIs(1, 2), 0);
         due.is("was taught nothing", x.childIs(1, 3), 0);
         due.is("room", x.childIs(1, 0), 0);
@@ -141,6 +145,26 @@ public final class ImagesTest {
         due.is("its own text", x.says(1, 0, 0), -4);
         due.is("form 1 again", x.form(9, 8), 1);
         due.is("its own bars", x.cheapest(16, 0), Due.NONE);
+    }
+
+    private static void sheetsComeAndGo() {
+        RubbedSheets x = new RubbedSheets();
+        x.room();
+        x.child(0, 0);
+        x.image();
+        x.sit(0, 1);
+        x.undo();
+        due.is("the sheet is gone", x.sheetIs(0, 0, 0), Due.NONE);
+        Due.read(x, 0, "333333333333");
+        x.image();
+        x.leaves(0);
+        Due.read(x, 0, "000000000000");
+        x.mark(0, 0, 5, 1);
+        x.undo();
+        due.is("it is back", x.sheetIs(0, 0, 0), 0);
+        due.is("with its choices", x.bubble(0, 0, 0, 0), 3);
+        due.is("and hands", x.bubble(0, 0, 0, 1), 0);
+        due.is("and nothing rubbed", x.sheetIs(0, 0, 3), 0);
     }
 
     private static void count() {

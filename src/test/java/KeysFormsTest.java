@@ -68,6 +68,8 @@ public final class KeysFormsTest {
         due.is("both", x.could(0, 0, 99, 11), 513);
         due.is("only these hours", x.could(0, 8, 20, 4), 1);
         due.is("only these hours, both", x.could(0, 8, 20, 3), 513);
+        due.is("the last hour is not of these", x.could(0, 8, 11, 4), 0);
+        due.is("three are", x.could(0, 8, 11, 3), 513);
         due.is("the other room", x.could(1, 0, 99, 50), 16);
         due.is("n above", x.could(0, 0, 99, 100), Due.BEYOND);
         due.is("n below", x.could(0, 0, 99, 0), Due.BEYOND);

@@ -138,6 +138,9 @@ public final class RoomsTest {
         string(x, 0, 2, 1, 11, 3);
         Due.read(x, 4, "000000000000");
         string(x, 1, 2, 12, 0, 24);
+        string(withRooms(room("..1.........", "..1.........")), 0, 2, 1, 2, 3);
+        string(withRooms(room("............", "............")), 0, 2, 0, -1, 0);
+        string(withRooms(room("0.0000000000", "0.0000000000")), 0, 2, 10, 2, 3);
         due.is("another year", x.string(1, 5, 2, 0), 0);
         due.is("k above", x.string(0, 0, 10, 0), Due.BEYOND);
         due.is("k below", x.string(0, 0, 1, 0), Due.BEYOND);

@@ -77,6 +77,12 @@ public final class SheetsTest {
         x.question(1, 1, 6);
         due.is("two hard ones", x.sheetIs(0, 0, 5), 3);
         due.is("FIT", x.measure(0, 0, 3), 3);
+        RubbedSheets y = withSheet("100000000000");
+        y.question(11, 1, 1);
+        due.is("first wrong, last right", y.sheetIs(0, 0, 5), 1);
+        RubbedSheets z = withSheet("000000000001");
+        z.question(0, 1, 1);
+        due.is("first right, last wrong", z.sheetIs(0, 0, 5), 1);
     }
 
     private static void weight() {

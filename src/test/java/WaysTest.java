@@ -76,6 +76,14 @@ public final class WaysTest {
         fault("siz", 0);
         fault("w r", 0);
         fault("puts", 0);
+        fault("xr", 0);
+        fault("xit", 0);
+        fault("xall", 0);
+        fault("fal", 0);
+        fault("ro", 0);
+        fault("r", 0);
+        fault(" ".repeat(98) + "wx", 98);
+        fault(" ".repeat(95) + "1+wr(", 95 + 4);
         fault("x", 0);
         fault("1 x", 2);
         fault("12345", 0);
@@ -135,6 +143,12 @@ public final class WaysTest {
 
     private static void worths() {
         worth("0", 0);
+        worth("1+size", 2);
+        worth("9000+9+size=size+9009", 1);
+        worth(" ".repeat(96) + "size", 1);
+        worth("1|".repeat(49) + "1", 1);
+        worth("1-".repeat(49) + "1", -48);
+        worth("1&".repeat(49) + "0", 0);
         worth("9999", 9999);
         worth("0012", 12);
         worth("  7  ", 7);
@@ -286,6 +300,9 @@ public final class WaysTest {
         line(withWrongs(0b0101, 3, 4, 5, 6), 0, 7, 0, 2);
         line(withWrongs(0b1101, 3, 4, 5, 6), 0, 5, 0, 1);
         line(withWrongs(0b10, 4, 4), 0, 5, 0, 1);
+        line(withWrongs(0b10, 1, 2), 0, 2, 0, 0);
+        line(withWrongs(0b10, 1, 9), 0, 2, 0, 0);
+        line(withWrongs(0b110, 0, 1, 2), 0, 1, 0, 0);
     }
 
     private static void lineEdges() {
