@@ -266,8 +266,8 @@ public final class HandsTest {
     /** The last year of one child and the first of the next don't touch. */
     private static void sheetsAreApart() {
         RubbedSheets x = withChildren(2);
-        Due.read(x, 1, "010000000000");
-        x.mark(1, 1, 5, 0);
+        Due.read(x, 1, "100000000000");
+        x.mark(1, 0, 5, 0);
         for (int year = 1; year <= 5; year++) {
             x.year();
         }
@@ -276,7 +276,7 @@ public final class HandsTest {
         x.mark(0, 11, 6, 2);
         x.mark(0, 0, 6, 0);
         sheetIs(x, 1, 0, "000000000000");
-        kindsAre(x, 1, 0, "050000000000");
+        kindsAre(x, 1, 0, "500000000000");
         due.is("WR of child 1", x.sheetIs(1, 0, 2), 1);
         due.is("WR of child 0", x.sheetIs(0, 5, 2), 1);
         due.is("WW of child 0", x.sheetIs(0, 5, 4), 1);
@@ -284,6 +284,15 @@ public final class HandsTest {
         due.is("child 0 has one", x.childIs(0, 4), 1);
         due.is("child 1 has one", x.childIs(1, 4), 1);
         due.is("one of year 5", x.count(2), 1);
+        RubbedSheets y = withChildren(2);
+        Due.read(y, 1, "............");
+        for (int year = 1; year <= 5; year++) {
+            y.year();
+        }
+        Due.read(y, 0, ".11.........");
+        due.is("puts on child 0's alone", y.puts(0, 99), 2);
+        due.is("fills child 0's alone", y.fills(0), 10);
+        sheetIs(y, 1, 0, "............");
     }
 
     private static void leaves() {

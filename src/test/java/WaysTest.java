@@ -302,6 +302,7 @@ public final class WaysTest {
         line(withWrongs(0b10, 4, 4), 0, 5, 0, 1);
         line(withWrongs(0b10, 1, 2), 0, 2, 0, 0);
         line(withWrongs(0b10, 1, 9), 0, 2, 0, 0);
+        line(withWrongs(0b110, 1, 2, 2), 0, 2, 0, 0);
         line(withWrongs(0b110, 0, 1, 2), 0, 1, 0, 0);
     }
 
