@@ -26,10 +26,15 @@ final class Due {
         }
     }
 
-    /** Feeds a text to the tape, byte by byte. */
+    /** Feeds a text to the tape, four bytes at a time, so that long ones take few calls. */
     static void feed(RubbedSheets x, String text) {
-        for (int i = 0; i < text.length(); i++) {
-            x.feed(text.charAt(i), 1);
+        for (int i = 0; i < text.length(); i += 4) {
+            int n = Math.min(4, text.length() - i);
+            int bytes = 0;
+            for (int j = i; j < i + n; j++) {
+                bytes = bytes << 8 | text.charAt(j) & 255;
+            }
+            x.feed(bytes, n);
         }
     }
 

@@ -222,7 +222,7 @@ public final class ImagesTest {
 
     private static void manyCalls() {
         RubbedSheets x = full();
-        for (int i = 0; i < 160; i++) {
+        for (int i = 0; i < 140; i++) {
             x.image();
             x.year();
             x.undo();

@@ -225,6 +225,10 @@ public final class ModelTest {
     }
 
     private boolean ask(String name, int... drawn) throws ReflectiveOperationException {
+        if (calls >= CALLS) {
+            // A text takes several calls; what the document promises ends amid it.
+            return true;
+        }
         calls++;
         int got = answer(sheets, name, drawn);
         int want = answer(model, name, drawn);
