@@ -585,17 +585,29 @@ public final class EdgeHandsTest {
         edge.says(16, "is no more");
         RubbedSheets x = States.sheets("100000000000", "000000000000");
         x.mark(0, 0, 5, 0);
-        edge.is("leaves", x.leaves(0), 12);
+        x.mark(0, 1, 6, 1);
+        x.mark(0, 11, 7, -1);
+        edge.is("leaves", x.leaves(0), 10);
         edge.is("leaves again", x.leaves(0), Edge.NONE);
         edge.is("nor can it be marked", x.mark(0, 0, 0, 1), Edge.STATE);
         edge.is("one is left", x.count(2), 1);
         edge.is("its choices don't count", x.count(9), 12);
         edge.is("nor right ones", x.count(10), 12);
         edge.is("nor what was rubbed", x.measure(0, 0, 0), 0);
-        edge.says(16, "is no more: a later one of that YEAR has nothing of it");
+        edge.says(16, "is no more: a later one of that YEAR that is read has nothing of it");
         edge.is("a new one", Due.read(x, 0, "0..........."), 1);
+        edge.choices(x, 0, 0, "0...........");
         edge.rubbed(x, 0, 0, 0, 0, 0);
         edge.kinds(x, 0, 0, "000000000000");
+        edge.says(16, "is no more: a later one of that YEAR that is sat has nothing of it");
+        for (int q = 0; q < 12; q++) {
+            x.mark(0, q, 6, 3);
+        }
+        x.leaves(0);
+        x.sit(0, -131231481);
+        edge.choices(x, 0, 0, "...31.210320");
+        edge.rubbed(x, 0, 0, 0, 0, 0);
+        edge.kinds(x, 0, 0, "000770777777");
         edge.says(16, "of the open YEAR: that of the YEAR ahead stays");
         RubbedSheets y = States.school();
         edge.is("leaves", y.leaves(0) >= 0 ? 1 : 0, 1);

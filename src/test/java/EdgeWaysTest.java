@@ -228,6 +228,23 @@ public final class EdgeWaysTest {
             fault("1+" + word, 2);
         }
         fault("z".repeat(100), 0);
+        edge.says(0, "a WORD that is none of these: one letter of a NAME is another");
+        for (String name : new String[] {"wr", "rw", "row", "fit", "fall", "size"}) {
+            for (int i = 0; i < name.length(); i++) {
+                fault(name.substring(0, i) + "q" + name.substring(i + 1), 0);
+                fault("1-" + name.substring(0, i) + "q" + name.substring(i + 1), 2);
+            }
+            fault(name.substring(1), 0);
+            fault("q" + name, 0);
+            fault(name + "q", 0);
+        }
+        edge.says(0, "a WORD that is none of these, a NUMBER of more digits: behind each sign, and a NAME or a NUMBER");
+        for (String ahead : new String[] {"(", "!", "1+", "1-", "1<", "1=", "1>", "1&", "1|", "1 ", "wr ", "(1)", "!(", "(!"}) {
+            fault(ahead + "abc", ahead.length());
+            fault(ahead + "abc)", ahead.length());
+            fault(ahead + "12345", ahead.length());
+            fault(ahead + "#", ahead.length());
+        }
         edge.says(0, "WORDS (a to z): no other byte is of one");
         fault("WR", 0);
         fault("wR", 0);
@@ -390,7 +407,9 @@ public final class EdgeWaysTest {
         for (int b = 0; b < 256; b++) {
             if (begins.indexOf((char) b) < 0) {
                 fault("1" + (char) b, 1);
+                fault("wr" + (char) b, 2);
                 fault("" + (char) b, 0);
+                fault("(" + (char) b, 1);
             }
         }
         edge.says(0, "The FAULT is the place of the first byte of the first that can't stand there");
@@ -634,6 +653,8 @@ public final class EdgeWaysTest {
         edge.says(0, "ROOMS with so much or more count as FLAGGED: as much is enough");
         line(wrongs(0b10, 3, 4), 0, 4, 0, 0);
         line(wrongs(0b10, 3, 9), 0, 4, 0, 0);
+        line(wrongs(0b110, 3, 4, 4), 0, 4, 0, 0);
+        line(wrongs(0b1110, 0, 1, 1, 2), 0, 1, 0, 0);
         edge.says(0, "ROOMS with SHEETS: one without counts for nothing");
         RubbedSheets y = wrongs(0b10, 3, 4);
         y.room();
