@@ -239,7 +239,8 @@ public final class EdgeWaysTest {
             fault(name + "q", 0);
         }
         edge.says(0, "a WORD that is none of these, a NUMBER of more digits: behind each sign, and a NAME or a NUMBER");
-        for (String ahead : new String[] {"(", "!", "1+", "1-", "1<", "1=", "1>", "1&", "1|", "1 ", "wr ", "(1)", "!(", "(!"}) {
+        for (String ahead : new String[] {"(", "!", "1+", "1-", "1<", "1=", "1>", "1&", "1|", "1 ", "wr ", "(1)", "!(",
+            "(!"}) {
             fault(ahead + "abc", ahead.length());
             fault(ahead + "abc)", ahead.length());
             fault(ahead + "12345", ahead.length());
