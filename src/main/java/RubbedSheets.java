@@ -1302,9 +1302,9 @@ public final class RubbedSheets {
     private static final class Reader {
         private static final int DEEPEST = 6;
         private static final int DIGITS = 4;
-        /** The names of the measures 0, 1, .. in places of one width. */
-        private static final String NAMES = "wr  rw  row fit fallsize";
-        private static final int NAME_WIDTH = 4;
+        /** The names of the measures 0, 1, .. (wr rw row fit fall size), a byte a letter, the last one lowest. */
+        private static final int[] NAMES = {0x7772, 0x7277, 0x726f77, 0x666974, 0x66616c6c, 0x73697a65};
+        private static final int LONGEST_NAME = 4;
         private static final int NUMBER = 256;
         private static final int END = 257;
         private static final int UNKNOWN = 258;
@@ -1388,29 +1388,22 @@ public final class RubbedSheets {
         }
 
         private void stepWord() {
+            int letters = 0;
             while (next < length && isLetter(text[next])) {
+                letters = letters << 8 | text[next];
                 next++;
             }
             sign = UNKNOWN;
+            // Of a longer word the first letters are shifted out, so that its end could pass for a name.
+            if (next - start > LONGEST_NAME) {
+                return;
+            }
             for (int m = 0; m < TOLD_MEASURES; m++) {
-                if (isNamed(m)) {
+                if (NAMES[m] == letters) {
                     sign = NUMBER;
                     worth = measures[m];
                 }
             }
-        }
-
-        private boolean isNamed(int m) {
-            if (next - start > NAME_WIDTH) {
-                return false;
-            }
-            for (int i = 0; i < NAME_WIDTH; i++) {
-                int b = start + i < next ? text[start + i] : ' ';
-                if (b != NAMES.charAt(m * NAME_WIDTH + i)) {
-                    return false;
-                }
-            }
-            return true;
         }
 
         // Each turn of the loops below takes a byte at least, so the tape's length bounds them.

