@@ -163,6 +163,8 @@ public final class LanguageTest {
             // By name alone: of two methods of one name the calls are taken together, which can only be deeper.
             calls.computeIfAbsent(name, n -> new TreeSet<>());
             is("rule 6: no " + name, !name.matches(".*\\.(equals|hashCode|toString)"));
+            is("rule 6: " + name + " is not synchronized, native, or with throws", tree.getThrows().isEmpty()
+                    && !of.getModifiers().contains(Modifier.SYNCHRONIZED) && !of.getModifiers().contains(Modifier.NATIVE));
             is("rule 11: parameters of " + name, tree.getParameters().size() <= MOST_PARAMETERS);
             is("rule 11: " + linesOf(tree) + " lines of " + name, linesOf(tree) <= MOST_LINES);
             String outer = method;
@@ -179,6 +181,7 @@ public final class LanguageTest {
         public Void visitVariable(VariableTree tree, Void none) {
             Element of = trees.getElement(getCurrentPath());
             is("rule 3: type of " + of + at(tree), isLet(of.asType(), 0));
+            is("rule 13: " + of + " is not volatile", !of.getModifiers().contains(Modifier.VOLATILE));
             if (of.getModifiers().contains(Modifier.STATIC)) {
                 is("rule 5: " + of + " is final", of.getModifiers().contains(Modifier.FINAL));
                 boolean isConstant = of instanceof VariableElement field && field.getConstantValue() != null;
